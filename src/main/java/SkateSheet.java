@@ -84,7 +84,6 @@ public final class SkateSheet {
             throw new IllegalStateException("an event is open, or too few judges are free");
         }
         event.start(couples, panel, dances);
-        latest.clear();
         return Integer.bitCount(panel);
     }
 
@@ -182,7 +181,7 @@ public final class SkateSheet {
         allCouples.raiseLevels(event.entered);
         inFinal = false;
         sheets.clear(0, 0);
-        latest.clear();
+        latest.forget();
         event.stop();
         closedEvents++;
         return closedEvents - 1;
@@ -708,7 +707,7 @@ public final class SkateSheet {
         }
     }
 
-    /** The latest round of the event; when it is cut, its crosses and its last heats stay to be asked for. */
+    /** The latest round of the event; when it is cut, its crosses and heats stay, as one can ask for them. */
     private static final class Round {
         boolean isRunning;
         int quota;
@@ -724,15 +723,13 @@ public final class SkateSheet {
             heatOf.fill(NONE);
         }
 
-        void clear() {
-            isRunning = false;
-            danced = 0;
+        void forget() {
             crosses.fill(0);
             heatOf.fill(NONE);
         }
 
         void start(int newQuota, int newSize) {
-            clear();
+            forget();
             isRunning = true;
             quota = newQuota;
             size = newSize;

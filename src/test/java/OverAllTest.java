@@ -16,6 +16,7 @@ public final class OverAllTest {
         resultRefuses();
         pointsAndStandings();
         theThreeGreatestOfFiveCount();
+        theGreatestCountInAnyOrder();
         levelsRise();
         judgesDrift();
         Check.end();
@@ -170,6 +171,21 @@ public final class OverAllTest {
             Check.due("ofCouple(0, 2) so many events behind: " + (event + 1), x.ofCouple(0, 2), aged[event]);
         }
         Check.due("ofCouple(0, 1)", x.ofCouple(0, 1), 3);
+    }
+
+    private static void theGreatestCountInAnyOrder() {
+        SkateSheet x = Halls.hall(6, 3);
+        int[] entered = {0b111, 0b111111, 0b1111, 0b11111, 0b1111};
+        int[] sheets = {321, 654321, 4321, 54312, 4321};
+        // What 0 wins: 6, 12, 8, 8, 8, each times 5 less how many events were closed behind it.
+        int[] want = {30, 84, 6 * 3 + 12 * 4 + 8 * 5, 12 * 3 + 8 * 4 + 8 * 5, 8 * 3 + 8 * 4 + 8 * 5};
+        for (int event = 0; event < want.length; event++) {
+            x.open(entered[event], 1);
+            x.begin();
+            tellAll(x, 0, sheets[event]);
+            x.close();
+            Check.due("ofCouple(0, 2) behind the event " + event, x.ofCouple(0, 2), want[event]);
+        }
     }
 
     private static void levelsRise() {
