@@ -67,7 +67,8 @@ public final class FinalTest {
         Check.refused(x, "sheet(0, -1, 321)", BOUNDS, () -> x.sheet(0, -1, 321));
         Check.refused(x, "sheet(0, 2, 321)", BOUNDS, () -> x.sheet(0, 2, 321));
         Check.refused(x, "sheet(0, 2, 0)", BOUNDS, () -> x.sheet(0, 2, 0));
-        for (int marks : new int[] {0, 21, 1321, 4321, 421, 320, 322, 111, -321, Integer.MIN_VALUE, Integer.MAX_VALUE}) {
+        int[] wrong = {0, 21, 1321, 4321, 421, 320, 322, 111, -321, Integer.MIN_VALUE, Integer.MAX_VALUE};
+        for (int marks : wrong) {
             Check.refused(x, "sheet(0, 0, " + marks + ")", ILLEGAL, () -> x.sheet(0, 0, marks));
         }
     }

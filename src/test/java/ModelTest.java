@@ -233,8 +233,10 @@ public final class ModelTest {
         int dance = below(m.many(6));
         int judges = below(128);
         both("exchanged(" + judge + ", " + dance + ", " + one + ", " + other + ", " + couple + ")",
-                () -> x.exchanged(judge, dance, one, other, couple), () -> m.exchanged(judge, dance, one, other, couple));
-        both("without(" + judges + ", " + couple + ")", () -> x.without(judges, couple), () -> m.without(judges, couple));
+                () -> x.exchanged(judge, dance, one, other, couple),
+                () -> m.exchanged(judge, dance, one, other, couple));
+        both("without(" + judges + ", " + couple + ")", () -> x.without(judges, couple),
+                () -> m.without(judges, couple));
         both("result(" + couple + ", 0)", () -> x.result(couple, 0), () -> m.result(couple, 0));
         both("placed(" + couple + ", " + dance + ", 1)", () -> x.placed(couple, dance, 1),
                 () -> m.placed(couple, dance, 1));
@@ -242,8 +244,8 @@ public final class ModelTest {
         both("votes(" + couple + ", " + dance + ", " + p + ")", () -> x.votes(couple, dance, p),
                 () -> m.votes(couple, dance, p));
         if (random.nextInt(12) == 0) {
-            both("bestExchange(" + judge + ", " + dance + ", " + couple + ")", () -> x.bestExchange(judge, dance, couple),
-                    () -> m.bestExchange(judge, dance, couple));
+            both("bestExchange(" + judge + ", " + dance + ", " + couple + ")",
+                    () -> x.bestExchange(judge, dance, couple), () -> m.bestExchange(judge, dance, couple));
             both("fragile()", () -> x.fragile(), () -> m.fragile());
             FRAGILE.add(x.fragile());
         }
